@@ -1204,7 +1204,7 @@ public final class BoneRods {
         }
 
         /** What is READ OFF in the end, if turns are left and the next one wants much, or little. */
-        int playedOut(int turns, int used, int read, boolean much) {
+        private int playedOut(int turns, int used, int read, boolean much) {
             int end = NONE;
             if (turns > 0) {
                 for (int i = 0; i < rods; i++) {
