@@ -60,8 +60,11 @@ public final class RowsTextsBoxesTest {
         refused(x, "row(0, -1)", x.row(0, -1), 5);
         refused(x, "row(0, MIN)", x.row(0, MIN), 5);
         check.due("at(0, 39) is there still", x.at(0, 39), 1);
+        x.lay(0, 0, 8);
         x.lay(0, 3, 8);
         check.due("row(0, 5)", x.row(0, 5), 5);
+        x.at(0, 0);
+        check.due("anew: place 0", x.asked(), 0);
         x.at(0, 3);
         check.due("anew: place 3", x.asked(), 0);
         refused(x, "at(0, 5)", x.at(0, 5), 2);
@@ -310,7 +313,11 @@ public final class RowsTextsBoxesTest {
         check.due("mark of what is OVER: 7 turned is 2", x.mark(2, 2), 0);
         x.over(3);
         check.due("mark of a SLID one that is OVER", x.mark(3, 3), 503);
-        BoneRods y = Check.withBox("s90s99");
+        BoneRods y = Check.withBox("s90s99d84t40d40");
+        check.due("mark of a DOUBLED one that SHOWS more than a TURNED one", y.mark(2, 5), 6);
+        check.due("mark of a DOUBLED one that never SHOWS more than a ROD", y.mark(2, 2), 0);
+        check.due("mark of a TURNED one, 1 more at first", y.mark(3, 2), 9);
+        check.due("mark of a DOUBLED one, a ROD in all LINES", y.mark(4, 5), 9);
         check.due("mark of a SLID one with MARK 0", y.mark(0, 3), 500);
         check.due("mark of a SLID one with MARK 9", y.mark(1, 3), 428);
     }

@@ -56,6 +56,8 @@ public final class WhichRodTest {
         check.due("findings(1)", x.findings(1), 4);
         check.due("findings(5)", x.findings(5), 8);
         check.due("findings(3)", x.findings(3), 24);
+        Check.fill(x, 0, 1, 0);
+        check.due("0 is a number", x.digits(0, 0), 1);
         Check.fill(x, 0, 1, 999999999);
         check.due("999999999 is a number", x.digits(0, 0), 0);
     }
